@@ -34,6 +34,7 @@ public final class PromisesTest {
         t.p21At();
         t.p22p23Rolls();
         t.p22p23RollsThroughOwnCracks();
+        t.p22p23RollsThroughCracksAhead();
         t.p24IceIn();
         t.p25BearsIn();
         t.p26Pass();
@@ -308,6 +309,11 @@ public final class PromisesTest {
         x.drill(7);
         x.drill(5);
         c.due("10: the thinnest", 5, x::weakest);
+        IceConvoys y = new IceConvoys();
+        drillAll(y);
+        y.pass(1);
+        y.drill(0);
+        c.due("10: the next to the thickest", 1, y::weakest);
     }
 
     private void p11p12Rows() {
@@ -679,6 +685,42 @@ public final class PromisesTest {
         dueRolls(y, 1, 5);
         dueRolls(y, 0, 6);
         c.due("22: nothing changes", 6, () -> y.convoyOf(0, 2));
+        IceConvoys just = withConvoy(1, 36);
+        drillAll(just);
+        just.start(0);
+        dueRolls(just, 0, 12);
+    }
+
+    /** Only the mile 5 is so thin that a crack by the first three trucks stops the fourth one there. */
+    private void p22p23RollsThroughCracksAhead() {
+        dueRolls(withThinMile5(50, 50, 60), 0, 18);
+        dueRolls(withThinMile5(50, 60, 50), 0, 18);
+        dueRolls(withThinMile5(60, 50, 50), 0, 18);
+        dueRolls(withThinMile5(50, 60, 60), 0, 10);
+        dueRolls(withThinMile5(60, 50, 60), 0, 10);
+        dueRolls(withThinMile5(60, 60, 50), 0, 10);
+        IceConvoys x = withThinMile5(60, 60, 50);
+        roll(x, 0, 7);
+        dueRolls(x, 0, 3);
+        roll(x, 0, 3);
+        dueRolls(x, 0, 0);
+        c.due("22: at the mile 5", 5, () -> x.why(0, true));
+    }
+
+    private static IceConvoys withThinMile5(int first, int second, int third) {
+        IceConvoys x = withConvoy(1, first, second, third, 60);
+        while (x.ice(5) * x.ice(5) * 0.04f < 60.0f) {
+            x.pass(1);
+        }
+        x.drill(5);
+        x.pass(6);
+        for (int mile = 0; mile < 12; mile++) {
+            if (mile != 5) {
+                x.drill(mile);
+            }
+        }
+        x.start(0);
+        return x;
     }
 
     private void p24IceIn() {
@@ -861,8 +903,12 @@ public final class PromisesTest {
             {"p1;", 3}, {"p1;d0;s0;r0;t1;j0:0.0;p", 23}, {"p000", 3}, {"d\u0661", 1}, {"\u0000", 0}, {"d/", 1}, {"d:", 1},
             {"d0;d1;d2;d3;d4;d5;d6;d7;d8;d9;d0;d1;d2;d3;d4;d5;d6;d7;d8;d9;", 60},
             {"d0;d1;d2;d3;d4;d5;d6;d7;d8;d9;d0;d1;d2;d3;d4;d5;d6;d7;d8;d9d", 59}};
-        for (Object[] error : errors) {
+        String[] earlier = {"", "0".repeat(60), ";".repeat(60), ":".repeat(60), ".".repeat(60), "-".repeat(60), "d".repeat(60)};
+        for (int k = 0; k < errors.length * earlier.length; k++) {
+            Object[] error = errors[k % errors.length];
+            String text = earlier[k / errors.length];
             IceConvoys x = withConvoy(1, 10);
+            c.due("28: an earlier text that must leave nothing", ARGUMENT, () -> read(x, text));
             c.due("28: " + error[0], ARGUMENT, () -> read(x, (String) error[0]));
             c.due("29: " + error[0], error[1], x::errorPosition);
             c.due("28: empty after " + error[0], 0, () -> x.account(13));
@@ -931,6 +977,9 @@ public final class PromisesTest {
         x.pass(8);
         x.drill(3);
         dueAccounts(x, 8, 2, 3, 1, 1, 1, 2, 50, 24, 0, 1, 13, 74, 1, 8);
+        addConvoy(x, 1, 60, 5, 5, 5);
+        dueAccounts(x, 8, 2, 4, 1, 1, 1, 2, 50, 99, 0, 1, 13, 149, 1, 8);
+        c.due("21: no truck with 4 convoys", NONE, () -> x.at(11));
     }
 
     private void dueAccounts(IceConvoys x, int... accounts) {
@@ -960,6 +1009,19 @@ public final class PromisesTest {
         c.due("32: all arrived", 75, () -> x.account(7));
         x.undo();
         c.due("32: undone", true, x::isWell);
+        addConvoy(x, 1, 5, 5);
+        x.start(1);
+        roll(x, 1, 5);
+        addConvoy(x, 1, 5, 5);
+        x.start(2);
+        roll(x, 2, 2);
+        c.due("32: trucks side by side", 5, () -> x.account(5));
+        c.due("32: well", true, x::isWell);
+        for (int k = 0; k < 13; k++) {
+            x.pass(30);
+        }
+        c.due("32: all ice is 200.0f", 200.0f, () -> x.ice(11));
+        c.due("32: the thickest ice", true, x::isWell);
     }
 
     private void p33MeanBits() {

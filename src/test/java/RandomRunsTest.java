@@ -76,11 +76,13 @@ public final class RandomRunsTest {
 
     /** Trucks in rows and in two convoys, and every mile drilled, so that a run comes far. */
     private void begin() {
+        boolean isHeavy = random.nextBoolean();
         call("set", 0, -40 + random.nextInt(30));
-        call("pass", 1 + random.nextInt(30));
+        call("pass", isHeavy ? 10 + random.nextInt(8) : 1 + random.nextInt(30));
         for (int row = 0; row < 2; row++) {
             for (int k = 0; k < 5; k++) {
-                call("truck", row, 5 + random.nextInt(56), 2 + random.nextInt(5), row);
+                int weight = isHeavy ? 45 + random.nextInt(16) : 5 + random.nextInt(56);
+                call("truck", row, weight, 2 + random.nextInt(5), row);
             }
         }
         for (int convoy = 0; convoy < 2; convoy++) {
@@ -90,6 +92,10 @@ public final class RandomRunsTest {
             }
         }
         for (int mile = 0; mile < 12; mile++) {
+            call("drill", mile);
+        }
+        call("pass", 1 + random.nextInt(5));
+        for (int mile = 0; mile < 12; mile += 1 + random.nextInt(3)) {
             call("drill", mile);
         }
     }
