@@ -33,6 +33,10 @@ final class Checks {
         due(what + ": detail", detail, () -> x.refusal(true));
     }
 
+    int made() {
+        return made;
+    }
+
     int wrong() {
         return wrong;
     }

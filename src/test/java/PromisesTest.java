@@ -1,14 +1,5 @@
-import java.util.NoSuchElementException;
-
 /** Each promise of the document by itself: ordinary inputs, the edges it names, and wrong inputs. */
-public final class PromisesTest {
-    private static final Class<?> ARGUMENT = IllegalArgumentException.class;
-    private static final Class<?> INDEX = IndexOutOfBoundsException.class;
-    private static final Class<?> STATE = IllegalStateException.class;
-    private static final Class<?> NONE = NoSuchElementException.class;
-    private static final Class<?> REFUSED = UnsupportedOperationException.class;
-    private static final int[] NO_MILES = {-1, 12, Integer.MIN_VALUE, Integer.MAX_VALUE};
-
+public final class PromisesTest extends Roads {
     private final Checks c = new Checks();
 
     public static void main(String[] args) {
@@ -53,55 +44,6 @@ public final class PromisesTest {
         t.p35UndoOfEachChange();
         t.p36p37Snapshot();
         t.c.end("PromisesTest");
-    }
-
-    /** A convoy 0 with the gap, and flat trucks of the weights. */
-    private static IceConvoys withConvoy(int gap, int... weights) {
-        IceConvoys x = new IceConvoys();
-        addConvoy(x, gap, weights);
-        return x;
-    }
-
-    private static void addConvoy(IceConvoys x, int gap, int... weights) {
-        int convoy = x.convoy(gap);
-        for (int weight : weights) {
-            x.join(convoy, 0, x.truck(0, weight, 2, 0));
-        }
-    }
-
-    private static void drillAll(IceConvoys x) {
-        for (int mile = 0; mile < 12; mile++) {
-            x.drill(mile);
-        }
-    }
-
-    private static void roll(IceConvoys x, int convoy, int times) {
-        for (int k = 0; k < times; k++) {
-            x.roll(convoy);
-        }
-    }
-
-    private static int read(IceConvoys x, String text) {
-        type(x, text);
-        return x.read();
-    }
-
-    private static void type(IceConvoys x, String text) {
-        for (int k = 0; k < text.length(); k++) {
-            x.append(text.charAt(k));
-        }
-    }
-
-    private static int bits(float value) {
-        return Float.floatToIntBits(value);
-    }
-
-    private static float grown(float ice, int cold, int days) {
-        float grown = ice;
-        for (int day = 0; day < days; day++) {
-            grown = grown + ((float) cold * 1.5f / (grown + 10.0f));
-        }
-        return grown;
     }
 
     private void p01NewObject() {
@@ -234,14 +176,6 @@ public final class PromisesTest {
             x.pass(30);
         }
         c.due("7: at most 200.0f", true, () -> x.ice(0) <= 200.0f && x.ice(0) == grownAtMost(6.0f, 40, 600));
-    }
-
-    private static float grownAtMost(float ice, int cold, int days) {
-        float grown = ice;
-        for (int day = 0; day < days; day++) {
-            grown = Math.min(200.0f, grown(grown, cold, 1));
-        }
-        return grown;
     }
 
     private void p08Bears() {
