@@ -244,6 +244,10 @@ final class AccountsEdges extends Edges {
         c.due("the second of one and the first of the other", false, z::isWell);
         Inside.set(z, "now.convoys[1].lead", 1);
         c.due("at 4, 2, 1 and -1", true, z::isWell);
+        Inside.set(z, "now.convoys[1].lead", 6);
+        c.due("one behind the other by their gap: 4, 2, 6 and 4", false, z::isWell);
+        Inside.set(z, "now.convoys[1].lead", 8);
+        c.due("at 4, 2, 8 and 6", true, z::isWell);
         Inside.set(z, "now.convoys[0].lead", 1);
         Inside.set(z, "now.convoys[1].lead", 0);
         c.due("both second trucks before the road", true, z::isWell);
@@ -295,6 +299,10 @@ final class AccountsEdges extends Edges {
     void bitsOfTheMean() {
         c.due("no ice", 0L, () -> withoutIce().meanBits());
         c.due("the most ice", Double.doubleToLongBits(200.0), () -> withMostIce().meanBits());
+        IceConvoys thin = withoutIce();
+        thin.set(0, -1);
+        thin.pass(1);
+        c.due("less than 1.0", Double.doubleToLongBits(0.15f * 12.0 / 12.0), thin::meanBits);
         for (int temperature = -40; temperature <= 10; temperature++) {
             IceConvoys x = new IceConvoys();
             x.set(0, temperature);

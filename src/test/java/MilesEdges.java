@@ -450,6 +450,14 @@ final class MilesEdges extends Edges {
         c.due("all bear the same", 0, x::weakest);
         x.set(1, 0);
         c.due("all bear nothing at a limit of 0", 0, x::weakest);
+        IceConvoys z = withDrill(0);
+        z.set(1, 0);
+        c.due("0.0f by a drill and 0.0f without one", 0, z::weakest);
+        z.undo();
+        z.pass(8);
+        z.drill(5);
+        z.set(1, 0);
+        c.due("0.0f by an old drill, by a new one and without one", 0, z::weakest);
         IceConvoys y = new IceConvoys();
         for (int mile = 0; mile < 10; mile++) {
             y.drill(mile);

@@ -43,6 +43,31 @@ final class RulesEdges extends Edges {
         c.due("less is left than a day melts", true, () -> y.ice(0) > 0.0f && y.ice(0) < 4.0f);
         y.pass(1);
         c.due("not less than 0.0f", 0.0f, () -> y.ice(0));
+        IceConvoys z = new IceConvoys();
+        z.set(0, 1);
+        z.pass(30);
+        z.pass(30);
+        z.pass(15);
+        float rest = 30.0f;
+        for (int day = 0; day < 75; day++) {
+            rest = rest - (0.4f * 1.0f);
+        }
+        float left = rest;
+        c.due("a last bit of ice, some 0.00002f, is left", left, () -> z.ice(0));
+        c.due("it is ice", true, () -> left > 0.0f && left < 0.0001f);
+        z.drill(0);
+        c.due("it is noted", bits(left), () -> z.drilled(0));
+        c.due("it bears", bits(left * left * 0.04f), () -> z.bears(0));
+        z.pass(1);
+        c.due("nothing is left", 0.0f, () -> z.ice(0));
+        IceConvoys w = new IceConvoys();
+        w.set(0, 3);
+        w.pass(24);
+        float less = w.ice(0) - (0.4f * 3.0f);
+        c.due("would be some 0.000007f below", true, () -> less < 0.0f && less > -0.0001f);
+        w.pass(1);
+        c.due("is not below", 0.0f, () -> w.ice(0));
+        c.due("nor does it tell so", true, w::isWell);
     }
 
     @Says(in = "Terms", sentence = "and at most 200.0f.")
@@ -59,6 +84,21 @@ final class RulesEdges extends Edges {
         c.due("the most", 200.0f, () -> x.ice(0));
         x.pass(30);
         c.due("not more", 200.0f, () -> x.ice(0));
+        x.undo();
+        x.undo();
+        float before = x.ice(0);
+        x.set(0, -13);
+        x.pass(1);
+        c.due("just below the most", before + (13.0f * 1.5f / (before + 10.0f)), () -> x.ice(0));
+        c.due("is still below", true, () -> x.ice(0) < 200.0f);
+        x.undo();
+        x.set(0, -14);
+        x.pass(1);
+        c.due("just above is too much", true, () -> before + (14.0f * 1.5f / (before + 10.0f)) < 200.01f);
+        c.due("the most", 200.0f, () -> x.ice(0));
+        x.set(0, 1);
+        x.pass(1);
+        c.due("melts from the most", 200.0f - 0.4f, () -> x.ice(0));
     }
 
     @Says(in = "Terms", sentence = "Then, if the temperature is below -20, the cracks of each mile become 1 less, but at least 0.")
@@ -271,9 +311,32 @@ final class RulesEdges extends Edges {
     @Says(in = "Terms", sentence = "or the length of the text if it ends too early.")
     void textsThatEndTooEarly() {
         String[] cut = {"", "d", "s", "r", "t", "t-", "j", "j0", "j0:", "j0:0", "j0:0.", "p", "d0;", "d0;d", "d0;".repeat(20),
-            "d0;".repeat(19) + "d", "d0;".repeat(18) + "j0:0."};
+            "d0;".repeat(19) + "d", "d0;".repeat(18) + "j0:0.", "d0;".repeat(17) + "d00;d00;t", "d0;".repeat(18) + "d00;t-",
+            "d0;".repeat(18) + "d00;j0", "d0;".repeat(18) + "j0:0.", "d0;".repeat(17) + "d00;j0:0."};
         for (String text : cut) {
             dueUnread(text, ARGUMENT, text.length(), IceConvoys::new);
+            for (char sign : new char[] {'0', ';', ':', '.', '-', 'd'}) {
+                dueUnread(text, ARGUMENT, text.length(), () -> withFullTextRead(sign));
+            }
+        }
+    }
+
+    /** An earlier text that must not go on behind a shorter one. */
+    private static IceConvoys withFullTextRead(char sign) {
+        IceConvoys x = new IceConvoys();
+        Checks.outcome(() -> read(x, String.valueOf(sign).repeat(60)));
+        return x;
+    }
+
+    @Says(in = "Terms", sentence = "the offset of the first character that cannot continue such a text, or the length of the text if it ends too early.")
+    void noErrorInWhatEndsInTime() {
+        for (char sign : new char[] {'0', ';', ':', '.', '-', 'd'}) {
+            for (String text : new String[] {"d0", "d00", "p1", "t1", "t-1", "j0:0.0", "d0;".repeat(19) + "d00"}) {
+                IceConvoys x = withRowsAndConvoy();
+                c.due("an earlier text", ARGUMENT, () -> read(x, String.valueOf(sign).repeat(60)));
+                c.due(text, text.length() == 60 ? 20 : 1, () -> read(x, text));
+                c.due("the error position of " + text, -1, x::errorPosition);
+            }
         }
     }
 

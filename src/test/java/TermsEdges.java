@@ -503,6 +503,28 @@ final class TermsEdges extends Edges {
         }
     }
 
+    /** No run comes to it, as all 16 trucks strain a mile 112 at most. */
+    @Says(in = "Terms", sentence = "but at most 5.")
+    void noSixthCrack() {
+        for (int cracks = 3; cracks <= 5; cracks++) {
+            IceConvoys x = thickWith(1, 60, 60, 60);
+            Inside.set(x, "now.miles[0].cracks", cracks);
+            Inside.set(x, "now.miles[0].strain", 19);
+            x.start(0);
+            int due = Math.min(cracks + 1, 5);
+            c.due("cracks", due, () -> x.mileOf(0, 0));
+            c.due("strain becomes 20 less all the same", 6, () -> x.mileOf(0, 1));
+        }
+        IceConvoys y = thickWith(1, 60, 60);
+        Inside.set(y, "now.miles[3].cracks", 5);
+        Inside.set(y, "now.miles[3].strain", 19);
+        y.start(0);
+        // 5 cracks leave a half of 155.5 tonnes and 6 would leave 62.2: at 96 percent just the first bears 60.
+        y.set(1, 96);
+        c.due("rolls on through 5 cracks", 14, () -> y.rolls(0));
+        c.due("the same by rolling in a copy", 14, () -> y.rollsAgain(0));
+    }
+
     @Says(in = "Terms", sentence = "When the mile of a truck would be 12, the truck has arrived, and its weight is delivered.")
     void arrivedAt12AndDeliveredOnce() {
         IceConvoys x = rolled(11, 1, 17, 29);
@@ -604,6 +626,36 @@ final class TermsEdges extends Edges {
             c.due("rolls", 0, () -> x.rolls(n));
             c.due("rollsAgain", 0, () -> x.rollsAgain(n));
         }
+    }
+
+    @Says(in = "Terms", sentence = "Cracks by its own strain count as a convoy rolls on.")
+    void stoppedByItsOwnCrackAhead() {
+        int[][] weights = {{50, 50, 60}, {50, 60, 50}, {60, 50, 50}, {50, 60, 60}, {60, 50, 60}, {60, 60, 50}};
+        for (int k = 0; k < weights.length; k++) {
+            IceConvoys x = withThinMile5(weights[k]);
+            int due = k < 3 ? 18 : 10;
+            c.due("strain of 19 or 20 by the first three", due, () -> x.rolls(0));
+            c.due("the same by rolling in a copy", due, () -> x.rollsAgain(0));
+            roll(x, 0, 7);
+            c.due("when the first two have passed it", due - 7, () -> x.rolls(0));
+            roll(x, 0, due - 7);
+            c.due("not further", k < 3 ? 6 : 8, () -> x.why(0, false));
+        }
+    }
+
+    /** Started, with a fourth truck of 60 tonnes, which the mile 5 alone does not bear through a crack. */
+    private static IceConvoys withThinMile5(int... weights) {
+        IceConvoys x = withConvoy(1, weights[0], weights[1], weights[2], 60);
+        x.pass(13);
+        x.drill(5);
+        x.pass(6);
+        for (int mile = 0; mile < 12; mile++) {
+            if (mile != 5) {
+                x.drill(mile);
+            }
+        }
+        x.start(0);
+        return x;
     }
 
     @Says(in = "Terms", sentence = "Cracks by its own strain count as a convoy rolls on.")
