@@ -7,11 +7,12 @@ import java.nio.file.Files;
 import java.nio.file.Path;
 import java.util.Arrays;
 import java.util.HashSet;
+import java.util.List;
 import java.util.Set;
 import java.util.TreeSet;
 import java.util.regex.Pattern;
 
-/** The face of the document, and the rules of LANGUAGE.md that reflection and the source's text show. */
+/** The face and its titles as the document tells them, and the rules of LANGUAGE.md that reflection and the source's text show. */
 public final class FaceTest {
     private static final Path SOURCE = Path.of("src/main/java/IceConvoys.java");
 
@@ -30,9 +31,14 @@ public final class FaceTest {
         "\\bSystem\\.(?!arraycopy)", "\\bvar\\b", "[^\\x00-\\x7f]", "import (?!java\\.util\\.NoSuchElementException;)"};
 
     private final Checks checks = new Checks();
+    private final Document document;
+
+    private FaceTest(Document document) {
+        this.document = document;
+    }
 
     public static void main(String[] args) throws IOException {
-        FaceTest test = new FaceTest();
+        FaceTest test = new FaceTest(new Document(Path.of("../shared/DOC.md")));
         test.checkFace();
         test.checkStaticFields(IceConvoys.class);
         for (Class<?> inside : IceConvoys.class.getDeclaredClasses()) {
@@ -42,6 +48,8 @@ public final class FaceTest {
                 () -> Modifier.isPrivate(inside.getModifiers()) && Modifier.isStatic(inside.getModifiers()));
         }
         String source = Files.readString(SOURCE);
+        test.checkDeclarations(source.replaceAll("\\s+", " "));
+        test.checkTitles(source);
         for (String kept : KEPT_OUT) {
             test.checks.due("the source has " + kept, false, () -> Pattern.compile(kept).matcher(source).find());
         }
@@ -67,6 +75,36 @@ public final class FaceTest {
         checks.due("a constructor without parameters", 0, () -> constructors[0].getParameterCount());
         checks.due("it is public", true, () -> Modifier.isPublic(constructors[0].getModifiers()));
         checks.due("the class is public and final", Modifier.PUBLIC | Modifier.FINAL, IceConvoys.class::getModifiers);
+    }
+
+    /** Each declaration of the document's face stands in the source, with its parameters' names and its exceptions. */
+    private void checkDeclarations(String inOneLine) {
+        checks.due("declarations of the face", FACE.length + 1, document.face::size);
+        int from = 0;
+        for (String declaration : document.face) {
+            int found = inOneLine.indexOf(declaration.replace(";", " {"), from);
+            checks.due(declaration + " stands in the source, in the document's order", true, () -> found >= 0);
+            from = Math.max(from, found);
+        }
+    }
+
+    /** The title that stands last ahead of a call is the one that the document tells for it. */
+    private void checkTitles(String source) {
+        int calls = 0;
+        for (Document.Group group : document.groups()) {
+            for (String call : group.calls()) {
+                calls++;
+                String[] parts = source.split("public \\w+ " + call + "\\(", 2);
+                checks.due("the title ahead of " + call, group.title(), () -> lastTitle(parts[0]));
+            }
+        }
+        int callsFound = calls;
+        checks.due("calls with a title", FACE.length, () -> callsFound);
+    }
+
+    private static String lastTitle(String source) {
+        List<String> titles = source.lines().filter(line -> line.startsWith("    // ")).map(line -> line.substring(7)).toList();
+        return titles.isEmpty() ? "none" : titles.get(titles.size() - 1);
     }
 
     private void checkStaticFields(Class<?> type) {
